@@ -66,7 +66,7 @@ public final class SugarStamps {
         told.takeFrom(reader.draft);
         text.clear();
         now.begin(told);
-        Arrays.fill(isKept, false);
+        for (int k = 0; k < KEPT; k++) isKept[k] = false;
         sightings.clear();
         friday.clear();
         return reader.lines;
@@ -418,7 +418,6 @@ public final class SugarStamps {
         void readOn(Told told) {
             draft.takeFrom(told);
             faultPlace = NONE;
-            lines = 0;
             to = 0;
             for (int line = 1; line <= MOST_LINES; line++) {
                 if (!readLine()) return;
@@ -746,7 +745,10 @@ public final class SugarStamps {
 
         /** Tries the rows that give what is left to the members from place on, those with less ahead first. */
         private boolean spreads(int left, int place, int size, int set, int minutes) {
-            if (place >= size) return filesAll(size, set, minutes);
+            if (place >= size) {
+                giveShares(size);
+                return trial.runUntilFiled(told, set, minutes);
+            }
             int has = now.sweetness[member[place]];
             // One without sweetness is never carried.
             int least = has == 0 ? 1 : 0;
@@ -759,10 +761,9 @@ public final class SugarStamps {
             return false;
         }
 
-        private boolean filesAll(int size, int set, int minutes) {
+        private void giveShares(int size) {
             trial.takeFrom(now);
             for (int i = 0; i < size; i++) trial.sweetness[member[i]] += share[i];
-            return trial.runUntilFiled(told, set, minutes);
         }
 
         void findSmear(int file, int minutes) {
@@ -812,8 +813,8 @@ public final class SugarStamps {
         /** Harm is most where fewest files are filed. */
         int worstDesk(int minutes) {
             int worst = 0;
-            int fewest = MOST_FILES + 1;
-            for (int d = 0; d < told.desks; d++) {
+            int fewest = filesFiled(0, minutes);
+            for (int d = 1; d < told.desks; d++) {
                 int n = filesFiled(d, minutes);
                 if (n >= fewest) continue;
                 fewest = n;

@@ -139,6 +139,8 @@ public final class PromisesTest {
         faultOf(d, "plain ;", 6);
         faultOf(d, "plainx 0", 0);
         faultOf(d, "plai 0", 0);
+        faultOf(d, "plainz 0", 0);
+        faultOf(d, "aplain 0", 0);
         faultOf(d, "Plain 0", 0);
         faultOf(d, "plain 0;Plain 0", 8);
         faultOf(d, "plAin 0", 0);
@@ -165,6 +167,12 @@ public final class PromisesTest {
         faultOf(d, "office 1", 7);
         faultOf(d, "office 2", NONE);
         faultOf(d, "office 8", NONE);
+        faultOf(d, "office 1;plain 0", 7);
+        faultOf(d, "plain 2;jam", 6);
+        faultOf(d, "fade 10;jam", 5);
+        faultOf(d, "winter 100;jam", 7);
+        faultOf(d, "trail 0 0 0;jam", 8);
+        faultOf(d, "file 0 1 10;jam", 9);
         faultOf(d, "office 9", 7);
         faultOf(d, "office 08", NONE);
         faultOf(d, "office 008", 7);
@@ -204,6 +212,19 @@ public final class PromisesTest {
         d.due("fault() behind a new office", x.fault(), NONE);
         d.due("fault() again", x.fault(), NONE);
         d.due("count(1)", x.count(1), 12);
+        // What a text with a fault would have told is not there for the next one.
+        x = new SugarStamps();
+        Due.write(x, "office 4;jam");
+        d.due("fault()", x.fault(), 9);
+        d.due("office()", x.office(), NOT);
+        x.erase();
+        Due.write(x, "plain 3");
+        d.due("fault() of a desk that is not there", x.fault(), 6);
+        x.erase();
+        Due.write(x, "trail 0 1 5");
+        d.due("fault()", x.fault(), NONE);
+        d.due("office()", x.office(), 1);
+        d.due("count(1), told once", x.count(1), 1);
         return d;
     }
 
@@ -647,6 +668,20 @@ public final class PromisesTest {
         d.due("filed(5)", x.filed(5), 5);
         x.sit(0);
         d.due("filed(5), the queen", x.filed(5), NONE);
+        x = Due.told("trail 0 1 0;file 0 1 1;file 0 1 2");
+        d.due("filed(0), behind file 1", x.filed(0), 1);
+        d.due("filed(1), ahead of file 0", x.filed(1), 0);
+        x = Due.told("winter 99;trail 0 1 0;file 0 1 1" + ";file 0 1 1".repeat(5));
+        d.due("filed(5), behind a winter", x.filed(5), 104);
+        x.go(99);
+        d.due("filed(5), of all minutes", x.filed(5), 104);
+        // Round and round, each trail loses 1 in 3 minutes, until trail 0 smells as little as trail 1: behind 66 rounds.
+        String rounds = "office 4;trail 0 3 0;trail 0 1 67;trail 1 2 67;trail 2 0 67;file 0 3 2;winter 1";
+        d.due("filed(0), in the 200th minute", Due.told(rounds).filed(0), 199);
+        x = Due.told(rounds.replace("67", "68").replace("winter 1", "winter 2"));
+        d.due("filed(0), in the 201st minute", x.filed(0), NONE);
+        x.go(1);
+        d.due("filed(0), in the 200th from now", x.filed(0), 200);
         return d;
     }
 
@@ -708,6 +743,9 @@ public final class PromisesTest {
         d.due("honey(3, 2, 1)", x.honey(3, 2, 1), 1);
         x.sit(0);
         d.due("honey(2, 9, NONE), the queen", x.honey(2, 9, NONE), NONE);
+        x = Due.told(SMALL);
+        d.due("honey(1, 2, NONE), by trails with scent", x.honey(1, 2, NONE), 0);
+        d.due("honey(1, 1, NONE), by the wrong way", x.honey(1, 1, NONE), NONE);
         x = Due.told("winter 3;trail 0 1 0;file 0 1 1");
         d.due("honey(1, 3, NONE), winter", x.honey(1, 3, NONE), NONE);
         d.due("honey(1, 4, NONE), winter", x.honey(1, 4, NONE), 0);
@@ -772,6 +810,11 @@ public final class PromisesTest {
         d.due("smear(0, 1, 0)", x.smear(0, 1, 0), 0);
         d.due("smear(0, 1, 1)", x.smear(0, 1, 1), 2);
         d.due("smear(0, 1, 2)", x.smear(0, 1, 2), 51);
+        x = Due.told("office 4;trail 0 1 98;trail 0 3 98;trail 0 2 5;file 0 2 3");
+        d.due("smear(0, 1, 1)", x.smear(0, 1, 1), 2);
+        d.due("smear(0, 1, 2), the most", x.smear(0, 1, 2), 99);
+        x.spill(0, 99);
+        d.due("smear(0, 1, 0), not even the most", x.smear(0, 1, 0), NONE);
         x = Due.told("file 0 1 3");
         d.due("smear(0, 1, 0), no trails", x.smear(0, 1, 0), NONE);
         return d;
@@ -805,6 +848,7 @@ public final class PromisesTest {
         d.due("harm(1, 1)", x.harm(1, 1), 100);
         d.due("harm(2, 1)", x.harm(2, 1), 101);
         d.due("harm(2, 2)", x.harm(2, 2), 102);
+        d.due("harm(2, 99)", x.harm(2, 99), 102);
         d.due("worst(1)", x.worst(1), 0);
         d.due("worst(2)", x.worst(2), 2);
         // She who sits there now is not counted.
@@ -926,6 +970,12 @@ public final class PromisesTest {
         x.crumbs(1, 0);
         x.crumbs(2, 0);
         d.due("odds(2, 1), none again", x.odds(2, 1), NOT);
+        x.crumbs(1, 1);
+        d.due("odds(1, 0), one in all", x.odds(1, 0), 1);
+        x.crumbs(1, 2);
+        x.crumbs(2, 2);
+        d.due("odds(1, 0), halves", x.odds(1, 0), 1);
+        d.due("odds(1, 1), halves", x.odds(1, 1), 2);
         Due.tell(x, "office 8");
         for (int desk = 0; desk < 8; desk++) x.crumbs(desk, 99);
         d.due("odds(7, 0)", x.odds(7, 0), 1);
