@@ -141,6 +141,8 @@ public final class PromisesTest {
         faultOf(d, "plai 0", 0);
         faultOf(d, "plainz 0", 0);
         faultOf(d, "aplain 0", 0);
+        faultOf(d, "slain 0", 0);
+        faultOf(d, "plais 0", 0);
         faultOf(d, "Plain 0", 0);
         faultOf(d, "plain 0;Plain 0", 8);
         faultOf(d, "plAin 0", 0);
@@ -168,6 +170,7 @@ public final class PromisesTest {
         faultOf(d, "office 2", NONE);
         faultOf(d, "office 8", NONE);
         faultOf(d, "office 1;plain 0", 7);
+        faultOf(d, "office 1;jam", 7);
         faultOf(d, "plain 2;jam", 6);
         faultOf(d, "fade 10;jam", 5);
         faultOf(d, "winter 100;jam", 7);
@@ -861,6 +864,9 @@ public final class PromisesTest {
         x.go(2);
         d.due("harm(2, 2), all are filed", x.harm(2, 2), 100);
         d.due("worst(2), all are filed", x.worst(2), 0);
+        x = Due.told("office 4;trail 1 3 0;trail 2 3 0;file 1 3 1;file 1 3 1;file 2 3 1");
+        d.due("worst(1), of several the least", x.worst(1), 1);
+        d.due("worst(2), desk 1 of 0, 2, 1", x.worst(2), 1);
         d.due("harm(4, 0)", x.harm(4, 0), UNKNOWN);
         d.due("harm(-1, 1)", x.harm(-1, 1), UNKNOWN);
         d.due("harm(0, 0)", x.harm(0, 0), OUTSIDE);
