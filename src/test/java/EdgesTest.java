@@ -26,6 +26,7 @@ public final class EdgesTest {
         end(lengthsOfText());
         end(trailsAndFilesOfText());
         end(linesInOrder());
+        end(nothingLeft());
         end(toldDesks());
         end(toldTrailsAndFiles());
         end(kinds());
@@ -206,6 +207,7 @@ public final class EdgesTest {
             faultOf(d, x, word.substring(1) + " " + numbers, 0);
             faultOf(d, x, word.substring(0, word.length() - 1) + " " + numbers, 0);
             faultOf(d, x, word + "s " + numbers, 0);
+            for (int i = 0; i < word.length(); i++) faultOf(d, x, word.substring(0, i) + "x" + word.substring(i + 1) + " " + numbers, 0);
             faultOf(d, x, word + word + " " + numbers, 0);
             faultOf(d, x, word + " " + word + " " + numbers, word.length() + 1);
             faultOf(d, x, word.substring(0, 2) + " " + word.substring(2) + " " + numbers, 0);
@@ -386,10 +388,25 @@ public final class EdgesTest {
         return d;
     }
 
+    /** Behind an office nothing is left of the trails and files that there were. */
+    private static Due nothingLeft() {
+        Due d = new Due("5 office, all else as at first");
+        String[] many = {"office 3;trail 0 1 0" + ";trail 0 1 0".repeat(10), "trail 1 2 0;file 0 1 5" + ";file 0 1 9".repeat(5)};
+        SugarStamps x = Due.told(many);
+        Calls.due(d, x, "quiet(0, 2) 2", "desk(0, 2) 11", "go(1) 1", "count(7) 2", "'office 3;trail 0 2 3;file 0 1 4'", "quiet(0, 1) NONE",
+                "quiet(1, 2) NONE", "desk(0, 1) 1", "desk(0, 2) 1", "desk(1, 2) 0", "queue(0, 0) 1", "next(0) 0", "count(7) 0", "go(1) 1",
+                "file(0, 0) 2", "next(0) 0", "rain() 1", "trail(1, 2) UNKNOWN", "file(1, 0) UNKNOWN", "worst(9) 0", "harm(1, 9) 100",
+                "smear(0, 9, 0) NONE", "honey(1, 9, NONE) NONE", "honey(2, 9, NONE) UNKNOWN", "seen(1, 0, 0) UNKNOWN", "count(5) 1");
+        x = Due.told(many);
+        Calls.due(d, x, "'office 3'", "rain() 0", "quiet(0, 1) NONE", "desk(0, 1) 0", "desk(0, 2) 0", "go(99) 99", "count(7) 0", "queue(0, 99) 0",
+                "honey(0, 1, NONE) 0", "honey(1, 1, NONE) UNKNOWN", "worst(1) 0");
+        return d;
+    }
+
     private static Due toldDesks() {
         Due d = new Due("6 desk");
-        SugarStamps x = Due.told("office 8;licks 7;trail 7 0 1;trail 7 0 1;trail 6 7 1;file 7 0 1", "file 7 0 2;file 7 1 3;file 7 2 4;file 7 3 5;file 7 4 6");
-        Calls.due(d, x, "desk(0, 0) 0", "desk(0, 1) 0", "desk(0, 2) 2", "desk(7, 0) 1", "desk(7, 1) 63", "desk(7, 2) 3", "desk(5, 2) 0",
+        SugarStamps x = Due.told("office 8;licks 7;stamps 6;cellar 5;trail 7 0 1;trail 7 0 1;trail 6 7 1;file 7 0 1", "file 7 0 2;file 7 1 3;file 7 2 4;file 7 3 5;file 7 4 6");
+        Calls.due(d, x, "desk(0, 0) 0", "desk(0, 1) 0", "desk(0, 2) 2", "desk(7, 0) 1", "desk(6, 0) 2", "desk(5, 0) 3", "desk(7, 1) 63", "desk(7, 2) 3", "desk(5, 2) 0",
                 "desk(8, 0) UNKNOWN", "desk(-1, 0) UNKNOWN", "desk(7, 3) OUTSIDE", "desk(7, -1) OUTSIDE");
         x = Due.told("trail 0 1 9" + ";trail 1 0 9".repeat(11));
         Calls.due(d, x, "desk(0, 2) 12", "desk(1, 2) 12", "desk(2, 2) UNKNOWN");
@@ -591,6 +608,7 @@ public final class EdgesTest {
         Calls.due(d, Due.told(rounds.replace("winter 1", "winter 2").replace("67", "68")), "filed(0) NONE", "go(1) 1", "filed(0) 200", "count(5) 1");
         Calls.due(d, Due.told("trail 0 1 0;file 0 1 1;file 0 1 0"), "filed(0) 0", "filed(1) NONE", "filed(2) UNKNOWN", "filed(-1) UNKNOWN");
         Calls.due(d, Due.told("trail 0 1 0" + ";file 0 1 7".repeat(6)), "filed(5) 5", "filed(6) UNKNOWN");
+        Calls.due(d, Due.told("trail 0 1 0;file 0 1 1;file 0 1 2"), "filed(0) 1", "filed(1) 0");
         return d;
     }
 
@@ -644,6 +662,8 @@ public final class EdgesTest {
         Calls.due(d, x, "honey(0, 1, NONE) 0", "honey(0, 1, 0) NONE", "honey(0, 0, NONE) OUTSIDE", "honey(15, 4, NONE) 0", "honey(31, 5, NONE) NOT",
                 "honey(63, 6, NONE) NOT", "honey(31, 5, 4) NOT", "honey(60, 60, NONE) 0", "honey(64, 1, NONE) UNKNOWN", "honey(-1, 1, NONE) UNKNOWN",
                 "honey(MIN, 1, NONE) UNKNOWN", "honey(32, 1, NONE) 1", "honey(32, 1, 0) 1", "honey(48, 2, NONE) 2", "honey(48, 2, 0) 1", "honey(48, 2, 1) 1");
+        // None gets less than nothing: file 0 has enough, and file 1 does not get its part.
+        Calls.due(d, Due.told("trail 0 1 0;file 0 1 5;file 0 1 1;file 0 1 2"), "honey(3, 2, NONE) 1", "honey(3, 2, 0) 0", "honey(3, 2, 1) 1");
         // Of the set, from the least file; the first row of several: file 0 gets less.
         Calls.due(d, x, "honey(36, 2, NONE) 2", "honey(36, 3, NONE) 2", "honey(36, 4, NONE) 1", "honey(36, 4, 0) 0", "honey(36, 4, 1) 1",
                 "honey(36, 4, 2) NONE");
@@ -657,7 +677,8 @@ public final class EdgesTest {
         Calls.due(d, x, "smear(0, 99, 0) 98", "smear(0, 99, 1) 0", "smear(0, 99, 2) 0", "smear(0, 98, 0) NONE", "smear(0, 98, 1) NONE",
                 "smear(0, 98, 2) NONE", "smear(0, 100, 0) OUTSIDE", "smear(0, 0, 0) OUTSIDE");
         x = Due.told("winter 99;trail 0 1 0;file 0 1 1");
-        Calls.due(d, x, "smear(0, 99, 0) NONE", "go(1) 1", "smear(0, 99, 0) 99", "go(98) 99", "smear(0, 1, 0) 99", "smear(0, 99, 0) 99", "go(1) 100",
+        Calls.due(d, x, "smear(0, 99, 0) NONE", "go(1) 1", "smear(0, 99, 0) 99", "go(98) 99", "smear(0, 1, 0) 99", "smear(0, 1, 2) 0", "smear(0, 99, 0) 99",
+                "smear(0, 99, 2) 0", "go(1) 100",
                 "smear(0, 99, 0) NOT", "smear(0, 0, 0) OUTSIDE");
         x = Due.told("file 0 1 1");
         Calls.due(d, x, "smear(0, 99, 0) NONE", "smear(0, 99, 1) NONE", "smear(0, 99, 2) NONE");
@@ -720,6 +741,11 @@ public final class EdgesTest {
         Calls.due(d, Due.told("office 8;trail 7 6 0;file 7 6 1"), "worst(1) 7", "worst(99) 7");
         Calls.due(d, Due.told("office 8;trail 7 6 0;file 7 6 1;file 6 7 1"), "worst(1) 6");
         Calls.due(d, Due.told("office 8;trail 7 6 0;file 7 6 1;file 7 6 1;file 6 7 1"), "worst(1) 6", "worst(2) 7", "sit(7) NONE", "worst(2) 7");
+        Calls.due(d, Due.told("office 4;trail 0 1 0;trail 2 3 0;file 0 1 1;file 0 1 1;file 2 3 1"), "harm(0, 2) 102", "harm(2, 2) 101", "worst(2) 0",
+                "worst(1) 0");
+        // On desk 0 she would help, on all others she does nothing: desk 1 is the least of these.
+        Calls.due(d, Due.told("office 4;fade 0;trail 3 1 0;trail 1 2 5;trail 0 1 0;file 3 2 1;file 0 3 9"), "harm(0, 2) 99", "harm(1, 2) 100",
+                "harm(2, 2) 100", "harm(3, 2) 100", "worst(2) 1");
         Calls.due(d, Due.told("winter 98;office 2;winter 98;trail 1 0 0;file 1 0 1"), "worst(98) 0", "worst(99) 1");
         return d;
     }
@@ -763,6 +789,8 @@ public final class EdgesTest {
         for (int desk = 1; desk < 7; desk++) d.due("crumbs(" + desk + ", 99)", x.crumbs(desk, 99), 0);
         Calls.due(d, x, "odds(3, 0) 1", "odds(3, 1) 8", "crumbs(3, 98) 99", "odds(3, 0) 14", "odds(3, 1) 113", "crumbs(3, 0) 98", "odds(3, 0) 0",
                 "odds(3, 1) 1", "odds(2, 1) 7");
+        Calls.due(d, Due.told("office 3"), "crumbs(0, 2) 0", "crumbs(1, 4) 0", "odds(0, 0) 1", "odds(0, 1) 3", "odds(1, 0) 2", "odds(1, 1) 3", "odds(2, 0) 0",
+                "odds(2, 1) 1");
         for (int desk = 0; desk < 8; desk++) x.crumbs(desk, 0);
         Calls.due(d, x, "odds(3, 0) NOT", "odds(3, 2) OUTSIDE");
         return d;

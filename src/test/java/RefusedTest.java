@@ -5,8 +5,9 @@ import java.util.Arrays;
  * Each call is made on an object of its own, which must then be as a twin that was not called.
  */
 public final class RefusedTest {
-    private static final int NEW = 0, BUSY = 1, FULL = 2, WINTER = 3;
-    private static final String[] STATES = {"a new object", "a busy object", "a full object", "an object in winter"};
+    private static final int NEW = 0, BUSY = 1, FULL = 2, WINTER = 3, ALMOST = 4, FAULTY = 5;
+    private static final String[] STATES = {"a new object", "a busy object", "a full object", "an object in winter", "an object almost full",
+        "a busy object with a fault"};
 
     private static int wrong = 0;
     private static int asked = 0;
@@ -31,7 +32,12 @@ public final class RefusedTest {
             refused(state, "crumbs, odds", CRUMBS[state]);
             refused(state, "count", "count(-1) OUTSIDE", "count(10) OUTSIDE", "count(MIN) OUTSIDE", "count(MAX) OUTSIDE");
         }
+        // Not even a part of it is done, up to the bound.
+        refused(ALMOST, "write, go", "write(0x6A6A6A6A6A6A, 6) FULL", "write(0x2020202020202020, 8) FULL", "go(3) FULL", "go(99) FULL");
+        // A text with a fault is none: nothing is reset.
+        refused(FAULTY, "office", "office() NOT");
         asksOnly();
+        givesOnly();
         System.out.println(asked + " answers asked, " + wrong + " not as due");
         if (wrong != 0) System.exit(1);
     }
@@ -82,11 +88,33 @@ public final class RefusedTest {
         return x;
     }
 
+    /** Two minutes, five bytes are left. */
+    private static SugarStamps almost() {
+        SugarStamps x = Due.told("office 3;fade 0;trail 0 1 9;trail 1 0 8;file 0 2 3");
+        Due d = new Due("an object almost full");
+        for (int i = 1; i <= 100; i++) d.due("go(99)", x.go(99), 99 * i);
+        Calls.due(d, x, "go(97) 9997");
+        Due.write(x, "fade 7" + " ".repeat(189));
+        Calls.due(d, x, "count(9) 195", "fault() NONE");
+        end(d);
+        return x;
+    }
+
+    private static SugarStamps faulty() {
+        SugarStamps x = busy();
+        Due d = new Due("a busy object with a fault");
+        Calls.due(d, x, "write(0x6D616A3B, 4) 10", "fault() 7");
+        end(d);
+        return x;
+    }
+
     private static SugarStamps make(int state) {
         switch (state) {
             case BUSY: return busy();
             case FULL: return full();
             case WINTER: return wintry();
+            case ALMOST: return almost();
+            case FAULTY: return faulty();
             default: return fresh();
         }
     }
@@ -183,6 +211,19 @@ public final class RefusedTest {
         SugarStamps x = busy();
         Calls.due(d, x, "back(0) 3", "back(1) 4", "sit(2) 1");
         d.due("all answers alike behind back(0), back(1)", firstUnlike(all(x), twin), -1);
+        end(d);
+    }
+
+    /** Honey and a smear that are found are not given. */
+    private static void givesOnly() {
+        Due d = new Due("asking gives nothing");
+        String text = "trail 0 1 40;trail 0 1 50;file 0 1 0;file 0 1 5";
+        int[] twin = all(Due.told(text));
+        for (String row : new String[] {"honey(1, 1, NONE) 5", "honey(1, 1, 0) 5", "honey(3, 2, NONE) 1", "smear(1, 1, 2) 0", "stamps(0) 1023"}) {
+            SugarStamps x = Due.told(text);
+            Calls.due(d, x, row);
+            d.due("all answers alike behind " + row, firstUnlike(all(x), twin), -1);
+        }
         end(d);
     }
 
