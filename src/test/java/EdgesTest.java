@@ -410,6 +410,9 @@ public final class EdgesTest {
                 "desk(8, 0) UNKNOWN", "desk(-1, 0) UNKNOWN", "desk(7, 3) OUTSIDE", "desk(7, -1) OUTSIDE");
         x = Due.told("trail 0 1 9" + ";trail 1 0 9".repeat(11));
         Calls.due(d, x, "desk(0, 2) 12", "desk(1, 2) 12", "desk(2, 2) UNKNOWN");
+        // All that are there, FILED or not; the queue is of those that are not.
+        x = Due.told("office 3;trail 0 1 0;file 0 1 5;file 1 2 0;file 0 1 4");
+        Calls.due(d, x, "desk(1, 1) 2", "go(2) 2", "count(7) 5", "desk(1, 1) 7", "queue(1, 0) 1", "desk(0, 1) 0", "queue(0, 0) 0");
         return d;
     }
 
@@ -579,6 +582,11 @@ public final class EdgesTest {
         // Kept anew, over what was kept; a text with a fault is no text.
         Calls.due(d, x, "go(9) 9", "keep(1) 9", "back(0) 2", "back(1) 9", "office() NOT", "back(0) 2", "erase() 4", "'fade 3'", "back(0) NOT",
                 "back(1) NOT", "keep(0) 0", "back(0) 0", "back(1) NOT");
+        // So they are as they are now, also where there were others as all was kept.
+        x = Due.told("office 3;trail 0 1 40;file 0 2 5");
+        Calls.due(d, x, "seen(0, 1, 0) 1", "crumbs(1, 5) 0", "keep(0) 0", "go(1) 1", "forget() 1", "crumbs(1, 0) 5", "crumbs(2, 7) 0", "back(0) 0",
+                "count(5) 0", "count(8) 0", "stamps(0) 1023", "crumbs(1, 0) 0", "odds(2, 0) 1", "odds(2, 1) 1", "keep(1) 0", "seen(0, 0, 0) 1",
+                "seen(0, 0, 1) 2", "back(1) 0", "count(8) 2", "forget() 2");
         return d;
     }
 
@@ -760,6 +768,10 @@ public final class EdgesTest {
         // All six count, the last one too: file 1 leaves behind file 0, so it has less than 2; with 1 it leaves in minute 1.
         Calls.due(d, x, "stamps(1) 2", "stamps(5) 0", "stamps(0) 1023", "stamps(2) 1023", "forget() 6", "count(8) 0", "forget() 0", "stamps(5) 1023",
                 "seen(5, 0, 0) 1", "go(9) 9", "sit(1) NONE", "count(8) 1");
+        // One told again is one more, up to six; it tells nothing new.
+        x = Due.told("trail 0 1 0;file 0 1 5");
+        Calls.due(d, x, "seen(0, 1, 1) 1", "seen(0, 1, 1) 2", "stamps(0) 1022", "seen(0, 1, 1) 3", "seen(0, 1, 1) 4", "seen(0, 1, 1) 5", "seen(0, 1, 1) 6",
+                "seen(0, 1, 1) FULL", "count(8) 6", "stamps(0) 1022", "forget() 6");
         return d;
     }
 
